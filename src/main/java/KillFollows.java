@@ -372,7 +372,7 @@ public final class KillFollows {
         if (!isForest()) {
             return refuse(NO_SUCH);
         }
-        return answer(Company.strayedKills(now));
+        return answer(Company.killsToGiveBack(now));
     }
 
     public int robbed() {
@@ -1727,7 +1727,7 @@ public final class KillFollows {
             return home;
         }
 
-        static int strayedKills(Scene now) {
+        static int killsToGiveBack(Scene now) {
             int count = 0;
             for (int k = 0; k < now.told.count[KILL]; k++) {
                 if (now.leads[k] != now.told.shot[k]) {

@@ -68,6 +68,7 @@ public final class ChancesTest {
             KillFollows x = dying(c, dies[i], 2, 1);
             for (int n = 0; n <= 2; n++) {
                 c.fine("breathes(0, " + n + ", false) of " + dies[i], x, x.breathes(0, n, false), upper[i][n]);
+                x.breathes(9, 0, true);
                 c.fine("breathes(0, " + n + ", true) of " + dies[i], x, x.breathes(0, n, true), lower[i][n]);
             }
             c.refused("breathes(1, 0, true)", x, x.breathes(1, 0, true), 1);
@@ -81,6 +82,7 @@ public final class ChancesTest {
     private static void silence(Check c) {
         KillFollows x = dying(c, 1, 4, 0);
         c.fine("silent(0, false)", x, x.silent(0, false), 0);
+        x.silent(9, true);
         c.fine("silent(0, true)", x, x.silent(0, true), 1);
         c.due("silent(1, false)", x.silent(1, false), 1);
         c.due("silent(1, true)", x.silent(1, true), 100000000L);
@@ -102,6 +104,7 @@ public final class ChancesTest {
     private static void means(Check c) {
         KillFollows x = dying(c, 30, 2, 4);
         c.fine("mean(0, false)", x, x.mean(0, false), 0);
+        x.mean(9, true);
         c.fine("mean(0, true)", x, x.mean(0, true), 1);
         c.due("mean(1, false)", x.mean(1, false), 6);
         c.due("mean(1, true)", x.mean(1, true), 5);
@@ -125,6 +128,10 @@ public final class ChancesTest {
         }
         c.due("rambles(0, 65536, 1): it draws itself for ever", x.rambles(0, 65536, 1), 1);
         c.due("rambles(0, 65536, 60)", x.rambles(0, 65536, 60), 1);
+        KillFollows y = c.told("forest dies 0;place a dark holds 9;place b dark holds 9;place c dark holds 9;"
+                + "path c b;path a b;man m sport at b");
+        c.due("rambles(0, 65536, 1): neighbours by numbers", y.rambles(0, 65536, 1), 0);
+        c.due("rambles(0, 0, 1): neighbours by numbers", y.rambles(0, 0, 1), 2);
         c.due("trail(0, 0) is as it was", x.trail(0, 0), 0);
         c.refused("rambles(1, 0, 0)", x, x.rambles(1, 0, 0), 1);
         c.refused("rambles(-1, 0, 0)", x, x.rambles(-1, 0, 0), 1);

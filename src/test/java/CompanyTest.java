@@ -122,6 +122,12 @@ public final class CompanyTest {
         ringOf(c, x, 1, 1, 3, 0);
         ringOf(c, x, 2, 2, 3, 0);
         ringOf(c, x, 3, 3, 0, 1);
+        // a owes b and c, only c owes a.
+        x = c.told(DEBTS + ";kill ka by mb far 0 worth 0;kill kb by mc far 0 worth 0;kill kc by ma far 0 worth 0;"
+                + "taken ka ma;taken kb ma;taken kc mc");
+        ringOf(c, x, 0, 0, 2);
+        ringOf(c, x, 1);
+        ringOf(c, x, 2, 2, 0);
         // A ring of all four, the other way round.
         x = c.told(DEBTS + ";kill ka by md far 0 worth 0;kill kb by ma far 0 worth 0;kill kc by mb far 0 worth 0;"
                 + "kill kd by mc far 0 worth 0;taken ka ma;taken kb mb;taken kc mc;taken kd md");

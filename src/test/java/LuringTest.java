@@ -62,6 +62,10 @@ public final class LuringTest {
         c.refused("follows(0, 0, MAX)", x, x.follows(0, 0, Integer.MAX_VALUE), 2);
         c.refused("follows(0, 1, 0)", x, x.follows(0, 1, 0), 2);
         c.refused("follows(0, 10, 1)", x, x.follows(0, 10, 1), 2);
+        int[] tens = {1, 10, 100, 1000, 10000, 100000, 1000000};
+        for (int n = 0; n <= 6; n++) {
+            c.refused("follows(0, " + tens[n] + ", " + n + ")", x, x.follows(0, tens[n], n), 2);
+        }
         c.refused("follows(0, 1000000, 6)", x, x.follows(0, 1000000, 6), 2);
         c.refused("follows(0, MAX, 6)", x, x.follows(0, Integer.MAX_VALUE, 6), 2);
         c.refused("follows(0, -1, 1)", x, x.follows(0, -1, 1), 2);
@@ -140,6 +144,28 @@ public final class LuringTest {
         c.due("lures(0, 0): nowhere", x.lures(0, 0), 0);
         c.due("lure(0, 0): back at a", x.lure(0, 0), 1);
         c.due("lureRow(0, 0)", x.lureRow(0, 0), 1);
+        // A poacher's kill six behind, seven behind when that is lit: what he does now is no matter.
+        x = c.told("forest dies 0;place a dark holds 0;place b lit holds 0;place c dark holds 0;place d dark holds 0;"
+                + "path a b;path b c;path c d;path d a;man m poacher at a;"
+                + "walk m b;walk m c;walk m d;walk m a;walk m b;walk m c;walk m d;kill k by m far 3 worth 0");
+        // His trail is d c b a d c b a: the kill stands at a out of the light, then at c, d, a,
+        // at a out of the light again, at c.
+        int[] within = {1, 1 + 4, 1 + 4 + 8, 13, 13, 13};
+        int[] stands = {0, 2, 3, 0, 0, 2};
+        for (int n = 0; n <= 5; n++) {
+            c.due("lures(0, " + n + ") far behind", x.lures(0, n), within[n]);
+            c.due("follows(0, 0, " + n + ") far behind", x.follows(0, 0, n), stands[n]);
+        }
+        // Of a star's leaves the last place too, by staying as well as by going.
+        x = c.told("forest dies 0;place a dark holds 0;place b dark holds 0;place c dark holds 0;path b a;path b c;"
+                + "man m sport at b;kill k by m far 0 worth 0;kill l by m far 1 worth 0");
+        c.due("lures(0, 1)", x.lures(0, 1), 7);
+        c.due("lures(1, 1)", x.lures(1, 1), 2);
+        c.due("lures(1, 2)", x.lures(1, 2), 7);
+        x.step(0, 2);
+        x.light(1, true);
+        c.due("lures(1, 0)", x.lures(1, 0), 0);
+        c.due("lures(1, 1): by staying or going", x.lures(1, 1), 4);
     }
 
     private static void nothingChanges(Check c) {

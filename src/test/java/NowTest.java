@@ -121,6 +121,8 @@ public final class NowTest {
         c.due("crowded()", x.crowded(), 1 + 4);
         c.due("take(4, 3)", x.take(4, 3), 0);
         c.due("crowded(): as many as it holds", x.crowded(), 1);
+        c.due("place(2, 5): as many as it holds", x.place(2, 5), 0);
+        c.due("place(0, 5)", x.place(0, 5), 1);
     }
 
     private static void leaders(Check c) {
@@ -160,6 +162,9 @@ public final class NowTest {
         c.due("room() with the wood lit", x.room(), 2);
         x = c.told(LONG);
         c.due("room() of crowded places", x.room(), 0);
+        x = c.told("forest dies 0;place a dark holds 3;place b dark holds 4;place c lit holds 5;man m prince at a;"
+                + "kill k by m far 0 worth 0");
+        c.due("room() of the first and the second", x.room(), 2 + 4);
     }
 
     private static void leds(Check c) {
@@ -176,6 +181,13 @@ public final class NowTest {
         x.undo();
         c.due("trouble() is none of led's: ahead", x.trouble(), 6);
         c.due("led(5)", led(x, 5), -9);
+        KillFollows y = c.told(LONG);
+        y.light(0, true);
+        y.light(2, true);
+        for (int i = 0; i < 6; i++) {
+            c.due("led(" + i + ") of all", led(y, i), i);
+        }
+        c.due("led(6) of all", led(y, 6), -9);
         c.due("trouble() is none of led's", x.trouble(), 6);
         c.due("led(0) of a new one", led(new KillFollows(), 0), -9);
     }

@@ -88,6 +88,12 @@ public final class TextTest {
         c.due("no IMAGES", x.size(10), 0);
         c.due("undo()", x.undo(), false);
         c.due("back(0)", x.back(0), false);
+        c.fine("a third", x, Check.tell(x, "forest dies 3;place aa lit holds 3;place bb dark holds 4;place cc lit holds 0"), 3);
+        for (int p = 0; p < 3; p++) {
+            c.due("paths of the first one are gone", x.place(p, 2), 0);
+        }
+        c.due("lamps as told", x.place(0, 0) + 2 * x.place(1, 0) + 4 * x.place(2, 0), 5);
+        c.due("no men of the one before", x.size(3), 0);
         c.fine("blanks mean nothing", x, Check.tell(x, "  forest   dies100 ;place a dark holds9 ;  place b lit holds 009  "), 2);
         c.due("size(0)", x.size(0), 100);
         c.due("holds", x.place(1, 1), 9);
@@ -135,6 +141,15 @@ public final class TextTest {
         c.fault("forest dies 0;place 1", 1, 20);
         c.fault("forest dies 0;place p", 1, 21);
         c.fault("forest dies 0;place p lit", 1, 25);
+        c.fault("forest dies 0;place p fit", 1, 22);
+        c.fault("forest dies 0;place p lie", 1, 22);
+        c.fault("forest dies 0;place p mark", 1, 22);
+        c.fault("forest dies 0;place p darks", 1, 22);
+        c.fault("forest dies 0;place p dar", 1, 22);
+        c.fault("forest lies 0", 1, 7);
+        c.fault(BASE + "man n sports at p", 1, BASE.length() + 6);
+        c.fault(BASE + "man n sport it p", 1, BASE.length() + 12);
+        c.fault(BASE + "maa n sport at p", 1, BASE.length());
         c.fault("forest dies 0;place p lit hold 1", 1, 26);
         c.fault("forest dies 0;place p lit holds", 1, 31);
         c.fault("forest dies 0;place p lit holds;", 1, 31);
@@ -150,6 +165,10 @@ public final class TextTest {
             c.fault(BASE + "kill " + word, 1, BASE.length() + 5);
             c.fault(BASE + "taken " + word, 1, BASE.length() + 6);
             c.fault(BASE + "stray " + word, 1, BASE.length() + 6);
+        }
+        for (String name : new String[] {"p", "q", "m", "k"}) {
+            c.fault(BASE + name, 1, BASE.length());
+            c.fault(BASE + name + " dark holds 1", 1, BASE.length());
         }
         c.fault(BASE + "path p", 1, BASE.length() + 6);
         c.fault(BASE + "path p;", 1, BASE.length() + 6);

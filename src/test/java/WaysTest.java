@@ -51,6 +51,9 @@ public final class WaysTest {
             c.due("next(1, " + p + ")", x.next(1, p), ofN[p]);
             c.due("next(2, " + p + ")", x.next(2, p), ofO[p]);
         }
+        x.step(0, 1);
+        c.due("next(0, 0)", x.next(0, 0), 0);
+        c.due("next(0, 5): by a or by e", x.next(0, 5), 0);
         c.refused("next(3, 0)", x, x.next(3, 0), 1);
         c.refused("next(-1, 0)", x, x.next(-1, 0), 1);
         c.refused("next(0, 7)", x, x.next(0, 7), 1);
@@ -133,6 +136,11 @@ public final class WaysTest {
         x = c.told("forest dies 0;place a dark holds 0;place b dark holds 0;place c dark holds 0;place d dark holds 0;"
                 + "path a d;path b d;path c d");
         c.due("middle() of a star", x.middle(), 3);
+        x = c.told("forest dies 0;place a dark holds 0;place b dark holds 0;place c dark holds 0;place d dark holds 0;"
+                + "path a d;path b a;path c a");
+        c.due("middle() of a star, the first", x.middle(), 0);
+        x = c.told("forest dies 0;place a dark holds 0;place b dark holds 0;place c dark holds 0;path a b");
+        c.due("middle(): nothing is nearer than one step", x.middle(), 2);
     }
 
     private static void partsOf(Check c) {
