@@ -11,11 +11,21 @@ final class Check {
             + "stray doe at ride;stray owl at pond";
 
     private final String test;
+    private String about = "";
     private int checked;
     private int wrong;
 
     Check(String test) {
         this.test = test;
+    }
+
+    /** What the next checks are about, told with those that aren't as due. */
+    void about(String words) {
+        about = words + ": ";
+    }
+
+    int checked() {
+        return checked;
     }
 
     /** Feeds a text, filled up with blanks to whole feeds: how many bytes THE TAPE has. */
@@ -51,7 +61,7 @@ final class Check {
         checked++;
         if (places < 0) {
             wrong++;
-            System.out.println(test + ": fault " + x.fault() + " at " + x.where() + " in: " + text);
+            System.out.println(test + ": " + about + "fault " + x.fault() + " at " + x.where() + " in: " + text);
         }
         return x;
     }
@@ -60,7 +70,7 @@ final class Check {
         checked++;
         if (got != want) {
             wrong++;
-            System.out.println(test + ": " + call + " answered " + got + ", due is " + want);
+            System.out.println(test + ": " + about + call + " answered " + got + ", due is " + want);
         }
     }
 
