@@ -1054,8 +1054,6 @@ public final class KillFollows {
         Reader() {
             for (int line = 0; line < LINE_SORTS; line++) {
                 names[line] = Tape.codeOf(lineWord(line));
-                nameSorts[line] = NONE;
-                nameNumbers[line] = line;
             }
         }
 

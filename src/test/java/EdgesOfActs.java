@@ -183,13 +183,16 @@ final class EdgesOfActs {
         e.due("undo() of nothing", x.undo(), false);
         // The end of the TRAIL comes back, too.
         x = e.told(ROW);
-        for (int i = 0; i < 9; i++) {
-            x.step(0, i % 2 == 0 ? 1 : 0);
+        int[] way = {1, 2, 3, 4, 5, 6, 5, 5, 4, 3, 2, 2};
+        String[] states = new String[way.length];
+        for (int i = 0; i < way.length; i++) {
+            states[i] = Edges.state(x);
+            x.step(0, way[i]);
         }
-        for (int i = 0; i < 9; i++) {
-            x.undo();
+        for (int i = way.length - 1; i >= 0; i--) {
+            e.due("undo() of STEP " + i, x.undo(), true);
+            e.due("the TRAIL as ahead of STEP " + i, Edges.state(x).equals(states[i]), true);
         }
-        e.due("as told", Edges.state(x).equals(Edges.state(e.told(ROW))), true);
     }
 
     private static void imagesUpToThree(Edges e) {

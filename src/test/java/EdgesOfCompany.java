@@ -138,6 +138,9 @@ final class EdgesOfCompany {
         for (int i : new int[] {-1, 4, Edges.LEAST, Edges.MOST}) {
             e.refuses(four, "ringAt(0, " + i + ")", 1, x -> x.ringAt(0, i));
         }
+        // b could come home by two debts, too, but the first man is himself.
+        e.answers(debts("ab", "ba", "bc", "ca"), "ringAt(0, 0): himself", 0, x -> x.ringAt(0, 0));
+        e.answers(debts("ab", "ba", "bc", "ca"), "ringAt(0, 1)", 1, x -> x.ringAt(0, 1));
         e.refuses(debts("ab", "ba"), "ringAt(0, 2) of two", 1, x -> x.ringAt(0, 2));
         e.refuses(FOUR, "ringAt(0, 0): there is none", 1, x -> x.ringAt(0, 0));
         e.refuses(FOUR, "ringAt(0, -2): there is none", 1, x -> x.ringAt(0, -2));
@@ -165,6 +168,7 @@ final class EdgesOfCompany {
         e.answers(FOUR, "robbed() without kills", -2, KillFollows::robbed);
         e.answers(debts("aa", "bb"), "robbed(): nobody lacks any", -2, KillFollows::robbed);
         e.answers(debts("ad"), "robbed() of what has no worth", 3, KillFollows::robbed);
+        e.answers(debts("da"), "robbed(): the first man", 0, KillFollows::robbed);
         e.answers(debts("ad", "dc"), "robbed() of what has no worth: the first", 2, KillFollows::robbed);
         String worths = FOUR + ";kill ka by mb far 0 worth 20;kill kb by mc far 0 worth 10;kill kc by mc far 0 worth 10;kill kd by ma far 0 worth 20";
         e.answers(worths + ";taken ka ma;taken kb ma;taken kc ma", "robbed(): like ones, the first", 1, KillFollows::robbed);

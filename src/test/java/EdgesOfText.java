@@ -148,7 +148,7 @@ final class EdgesOfText {
         e.says(0, "place NAME LIGHT holds WHOLE (LIGHT: dark, or lit; 0 .. 9; up to 7)");
         e.answers("forest dies 0;place a dark holds 0", "dark", 0, x -> x.place(0, 0));
         e.answers("forest dies 0;place a lit holds 0", "lit", 1, x -> x.place(0, 0));
-        for (String light : new String[] {"darks", "dar", "li", "litt", "dim", "holds", "a", "place"}) {
+        for (String light : new String[] {"darks", "dar", "mark", "darl", "li", "litt", "fit", "lip", "dim", "holds", "a", "place"}) {
             e.fault("forest dies 0;place a " + light + " holds 0", 1, 22);
         }
         e.answers("forest dies 0;place a dark holds 0", "holds 0", 0, x -> x.place(0, 1));
@@ -179,7 +179,7 @@ final class EdgesOfText {
         for (int kind = 0; kind < 4; kind++) {
             e.answers(Edges.BARE + ";man m " + kinds[kind] + " at a", kinds[kind], kind, x -> x.man(0, 0));
         }
-        for (String kind : new String[] {"sports", "spor", "princes", "king", "at", "man"}) {
+        for (String kind : new String[] {"sports", "spor", "aport", "sporn", "princes", "king", "at", "man"}) {
             e.fault(Edges.BARE + ";man m " + kind + " at a", 1, Edges.BARE.length() + 7);
         }
         String four = Edges.BARE + ";man m sport at a;man n sport at a;man o sport at a;man q sport at a";
@@ -275,6 +275,9 @@ final class EdgesOfText {
         e.fault("forest dies 0;place a dark holds", 1, 32);
         e.fault("forest dies 0;place a dark holds   ", 1, 35);
         e.fault("forest dies 0;p dark holds 0", 1, 14);
+        for (String name : new String[] {"p", "q", "m", "k"}) {
+            e.fault(BASE + name, 1, END);
+        }
 
         e.says(0, "2 a NAME that isn't told, or is of another sort than must stand there; at it.");
         String[] names = {"p", "m", "k", "s", "zzzzzzzz"};
@@ -438,10 +441,13 @@ final class EdgesOfText {
         e.due("back(0)", x.back(0), false);
         e.due("image(), the first", x.image(), 0);
         e.due("seven", Check.tell(x, Edges.alone(7)), 7);
-        String[] none = {Edges.BARE, Edges.FULL, Edges.BARE};
-        for (String text : none) {
+        // Nothing is left of the one before, nor of one with a FAULT at its end, whichever it was.
+        String lit = Edges.FULL.replace("dark", "lit");
+        for (String text : new String[] {lit, Edges.FULL, Edges.BARE, lit, Edges.BARE, Edges.FULL, Edges.alone(7)}) {
             Check.tell(x, text);
             e.due("as of a new object", Edges.state(x).equals(Edges.state(e.told(text))), true);
+            Check.tell(x, lit + ";");
+            e.due("as it was", Edges.state(x).equals(Edges.state(e.told(text))), true);
         }
 
         e.says(3, "NONE: 2 (THE TAPE stays); 4 (the FOREST stays).");

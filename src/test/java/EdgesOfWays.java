@@ -63,6 +63,9 @@ final class EdgesOfWays {
         e.answers(seen, "unseen(0, 3): at it", -2, x -> x.unseen(0, 3));
         e.answers(seen, "unseen(0, 4): behind it", -2, x -> x.unseen(0, 4));
         e.answers(seen, "unseen(1, 0): of him whom it follows", 3, x -> x.unseen(1, 0));
+        String own = ROW + ";walk m b;walk m c;kill k by m far 1 worth 0;man n sport at c";
+        e.answers(own, "unseen(0, 0): his own on the way", 2, x -> x.unseen(0, 0));
+        e.answers(own, "unseen(1, 0): another one's on the way", -2, x -> x.unseen(1, 0));
         e.answers(seen.replace("at a", "at d"), "unseen(0, 0): from where it STANDS", 3, x -> x.unseen(0, 0));
         KillFollows x = e.told(seen);
         x.take(0, 0);
@@ -130,6 +133,8 @@ final class EdgesOfWays {
         e.answers(Edges.alone(7), "middle() without paths: the first", 0, KillFollows::middle);
         e.answers(Edges.row(7), "middle() of seven in a row", 3, KillFollows::middle);
         e.answers(Edges.row(6), "middle() of six in a row: the first", 2, KillFollows::middle);
+        e.answers(Edges.row(3), "middle() of three in a row", 1, KillFollows::middle);
+        e.answers(Edges.row(2) + ";place z dark holds 0", "middle(): itself is nearer than one step", 2, KillFollows::middle);
         e.answers(Edges.row(7) + ";path g a", "middle() of a round: the first", 0, KillFollows::middle);
         e.answers(Edges.row(6) + ";place g dark holds 0", "middle(): the last comes to itself alone", 6, KillFollows::middle);
         e.answers(Edges.alone(7) + ";path g a;path g b;path g c;path g d;path g e;path g f", "middle() of a star: the last", 6,
